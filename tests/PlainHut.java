@@ -74,16 +74,18 @@ public final class PlainHut {
     return guests.size() - 1;
   }
   public int guests(int shelf, int i, int n) {
-    if (shelf < 0 || shelf > 5 || i < 0 || n < 1 || n > 7) return BAD;
+    if (shelf < 0 || shelf > 5 || n < 1 || n > 7) return BAD;
     if (shelves[shelf] == null) return 0;
     if (!(shelves[shelf].array instanceof byte[])) return -12;
     byte[] row = (byte[]) shelves[shelf].array;
     int came = 0;
-    for (long at = i; came < n && at + 2 < row.length && guests.size() < 7; at += 3, came++) {
-      int a = row[(int) at], b = row[(int) at + 1], c = row[(int) at + 2];
-      if (a < 0 || a > 9 || b < 0 || b > 50 || c < 0 || c > 3) break;
-      come(a, b, c);
-    }
+    try {
+      for (int at = i; came < n && guests.size() < 7; at += 3, came++) {
+        int a = row[at], b = row[at + 1], c = row[at + 2];
+        if (a < 0 || a > 9 || b < 0 || b > 50 || c < 0 || c > 3) break;
+        come(a, b, c);
+      }
+    } catch (ArrayIndexOutOfBoundsException e) { return came; }
     return came;
   }
   private static final int[] TOPS = {99, 9, 9, 20, 50, 3, 50, 999, 12};

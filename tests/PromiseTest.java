@@ -112,7 +112,9 @@ public final class PromiseTest {
     due("a body", x.guests(5, 0, 1), -12);
     due("shelf 6", x.guests(6, 0, 1), -1);
     due("shelf -1", x.guests(-1, 0, 1), -1);
-    due("place -1", x.guests(0, -1, 1), -1);
+    due("place -1 is not there", x.guests(0, -1, 1), 0);
+    due("place -3 is not there", x.guests(0, -3, 2), 0);
+    due("bad ahead of that", x.guests(0, -1, 0), -1);
     due("n 0", x.guests(5, 0, 0), -1);
     due("n 8", x.guests(5, 0, 8), -1);
     due("three came", x.count(0), 3);

@@ -62,7 +62,7 @@ public final class LeftAsFound {
     }
 
     public int guests(int shelf, int i, int n) {
-        if (!isShelf(shelf) || i < 0 || n < 1 || n > MOST_GUESTS) {
+        if (!isShelf(shelf) || n < 1 || n > MOST_GUESTS) {
             return BAD;
         }
         int refusal = shelves[shelf].refusalOfBytes();
@@ -73,10 +73,11 @@ public final class LeftAsFound {
         return welcomeFrom(shelves[shelf], i, n);
     }
 
+    /** A place ahead of the row is none of it, just as one behind its end. */
     private int welcomeFrom(Shelf shelf, int i, int n) {
         int came = 0;
         int at = i;
-        while (came < n && !house.isFull() && at <= shelf.length - 3) {
+        while (came < n && !house.isFull() && at >= 0 && at <= shelf.length - 3) {
             int takes = shelf.numberAt(at);
             int sees = shelf.numberAt(at + 1);
             int believes = shelf.numberAt(at + 2);
