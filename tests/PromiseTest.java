@@ -218,11 +218,11 @@ public final class PromiseTest {
     String[] texts = {"f-39", "o-f", "t", "b", "s", "k", "f-t*b", "f/7", "f%7", "-f/7", "-f%7", "f/0", "f%0", "7|0", "0|0", "7&0", "7&3",
         "!7", "!0", "!!7", "f<o", "o<f", "f>o", "o>f", "f=40", "f=o", "0?5;6", "1?5;6", "0?5", "0?5;k?9;7", "2+3*4", "(2+3)*2", "10-4-3",
         "12/2/3", "9999*9999*9999>0", "21", "-21", "9999", "0-9999", "1|0&0", "1+1=2", "0<1&1", "--5", "-(2+3)", "!f+3", "((((((f))))))-39",
-        "!!!!!!f", "-!-!-!f", "-1?7;8", "17%5*2", "1;2;3", "0009", "f<o|f>o?b-t;-t", "3&0|4", "2-1|0"};
+        "!!!!!!f", "-!-!-!f", "-1?7;8", "17%5*2", "1;2;3", "0009", "f<o|f>o?b-t;-t", "3&0|4", "2-1|0", "f<f", "f>f", "0?1|1;0|1", "(0|1)*9", "1?!!!!!!f;0"};
     int[] values = {1, 7, 3, 8, 4, 2, 16, 5, 5, -5, -5, 0, 0, 1, 0, 0, 1,
         0, 1, 1, 1, 0, 0, 1, 1, 0, 6, 5, 0, 9, 14, 10, 3,
         2, 0, 20, -20, 20, -20, 1, 1, 1, 5, -5, 3, 1,
-        1, 0, 7, 4, 1, 9, 5, 1, 1};
+        1, 0, 7, 4, 1, 9, 5, 1, 1, 0, 0, 1, 9, 1};
     for (int i = 0; i < texts.length; i++) due(texts[i], gives(texts[i]), values[i]);
     aLawStays();
   }
@@ -248,6 +248,14 @@ public final class PromiseTest {
     due("119 bytes", enact(x, longest.toString()), 1);
     longest.append('+');
     due("120 bytes, too short", enact(x, longest.toString()), -220);
+    longest.setLength(0);
+    while (longest.length() < 116) longest.append("0?1;");
+    due("120 bytes, all lines", enact(x, longest.append("-1?7").toString()), 1);
+    due("the last line counts", x.level(0, 0, 1), 57);
+    longest.setLength(0);
+    while (longest.length() < 118) longest.append("0;");
+    due("120 bytes of lines", enact(x, longest.append("01").toString()), 1);
+    due("the first line counts", x.level(0, 0, 1), 50);
   }
 
   private static void believing() {
@@ -266,6 +274,9 @@ public final class PromiseTest {
     due("it stays ahead of an empty night", x.level(1, 0, 3), 40);
     due("set", x.set(0, 48), 30);
     due("no further than what is believed", x.level(1, 0, 1), 50);
+    due("mend", x.mend(3, 4, 2), 0);
+    due("so many may lack, and it sees nothing", x.level(1, 0, 1), 48);
+    due("mend", x.mend(3, 4, 1), 2);
     due("mend", x.mend(30, 2, 9), 0);
     due("mend", x.mend(30, 3, 4), 5);
     due("brings less than it takes", x.level(1, 0, 1), 43);
@@ -423,7 +434,14 @@ public final class PromiseTest {
     // m others take 2m, then guest 1 brings 10 and takes 1, no further than 50, if more than 3 lack
     due("38: five others bring it to 40", x.often(0, 10, 40), 4);
     due("not below 0", x.often(0, 10, 0), 12);
-    due("m 1: 48, 47, 45, 50 ..", x.often(0, 10, 45), 2);
+    due("m 2: 48, 46, 50", x.often(0, 10, 45), 2);
+    tell(x, 0, 0, 0, 9, 9, 9);
+    // m 5: 48, 46, 46, 46, 46, 50; by any greater m the next one comes ahead of guest 1: 44
+    due("the row begins again", x.often(0, 10, 45), 5);
+    x.mend(0, 2, 4);
+    tell(x, 0, 0);
+    due("m 1: 46, 50", x.often(0, 10, 46), 1);
+    x.mend(0, 2, 2);
     due("never", x.often(0, 10, 50), -2);
     due("of a thing that nobody brings", x.often(0, 11, 1), -2);
     due("x 99", x.often(0, 10, 99), -2);
@@ -846,12 +864,16 @@ public final class PromiseTest {
     promise = 29;
     for (int i = 0; i < 60; i++) x.mend(0, 7, 100 + i);
     due("40 are kept", x.count(3), 40);
-    for (int left = 39; left >= 0; left--) due("undo", x.undo(), left);
-    due("none", x.undo(), -5);
-    due("the oldest are lost", x.of(0, 7), 119);
+    for (int left = 39; left >= 0; left--) {
+      due("undo", x.undo(), left);
+      due("one by one", x.of(0, 7), 119 + left);
+    }
+    due("the oldest are lost", x.undo(), -5);
     promise = 30;
-    for (int left = 39; left >= 0; left--) due("redo", x.redo(), left);
-    due("all again", x.of(0, 7), 159);
+    for (int left = 39; left >= 0; left--) {
+      due("redo", x.redo(), left);
+      due("one by one", x.of(0, 7), 159 - left);
+    }
   }
 
   private static void body() {

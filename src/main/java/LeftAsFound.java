@@ -13,7 +13,8 @@ public final class LeftAsFound {
     private static final int RULE = 6, PRICE = 7, HONEST = 8;
     private static final int LEVEL = 10, BOOK = 11, FOUND_FIRST = 12;
 
-    private static final int BY_FOUND = 0, BY_BOOK = 1, BY_PICTURE = 2, BY_ONE_AHEAD = 3;
+    /** What a guest may believe; by the picture, 2, is what is left. */
+    private static final int BY_FOUND = 0, BY_BOOK = 1, BY_ONE_AHEAD = 3;
 
     private static final int SHELVES = 6, LONGEST_ROW = 60;
     private static final int BYTES = 0, SHORTS = 1, INTS = 2, LONGS = 3, BOOLEANS = 4;
@@ -620,6 +621,24 @@ public final class LeftAsFound {
             return Math.max(ought(thing) - level, 0) * worth(thing);
         }
 
+        /** What a guest believes that a thing ought to be; ahead is NEVER for the first of all. */
+        int believed(int guest, int thing, int foundFirst, int written, int ahead) {
+            switch (believes(guest)) {
+                case BY_FOUND:
+                    return foundFirst;
+                case BY_BOOK:
+                    return written;
+                case BY_ONE_AHEAD:
+                    return ahead == NEVER ? ought(thing) : ahead;
+                default:
+                    return ought(thing);
+            }
+        }
+
+        boolean writesBook(int guest) {
+            return believes(guest) == BY_BOOK;
+        }
+
         /** The level behind a night of a guest who found f and believes that it ought to be o. */
         int levelAfter(int guest, int thing, int f, int o) {
             int takes = told[FIRST[TAKES] + guest * THINGS + thing];
@@ -688,32 +707,18 @@ public final class LeftAsFound {
             if (!house.hasGuest(guest)) {
                 return;
             }
-            int believes = house.believes(guest);
             for (int thing = 0; thing < THINGS; thing++) {
                 int f = levels[thing];
                 int pair = guest * THINGS + thing;
                 if (found[pair] == NEVER) {
                     found[pair] = f;
                 }
-                int o = believed(believes, house.ought(thing), thing, found[pair]);
+                int o = house.believed(guest, thing, found[pair], books[thing], ahead[thing]);
                 ahead[thing] = o;
                 levels[thing] = house.levelAfter(guest, thing, f, o);
-                if (believes == BY_BOOK) {
+                if (house.writesBook(guest)) {
                     books[thing] = levels[thing];
                 }
-            }
-        }
-
-        private int believed(int believes, int ought, int thing, int foundFirst) {
-            switch (believes) {
-                case BY_FOUND:
-                    return foundFirst;
-                case BY_BOOK:
-                    return books[thing];
-                case BY_ONE_AHEAD:
-                    return ahead[thing] == NEVER ? ought : ahead[thing];
-                default:
-                    return ought;
             }
         }
 
@@ -1648,21 +1653,12 @@ public final class LeftAsFound {
         }
 
         private void spendNight(int guest) {
-            int believes = house.believes(guest);
             if (found[guest] == NEVER) {
                 found[guest] = height;
             }
-            int o = house.ought(thing);
-            if (believes == BY_FOUND) {
-                o = found[guest];
-            } else if (believes == BY_BOOK) {
-                o = written;
-            } else if (believes == BY_ONE_AHEAD && believedAhead != NEVER) {
-                o = believedAhead;
-            }
-            believedAhead = o;
-            height = levelNoted(guest, height, o);
-            if (believes == BY_BOOK) {
+            believedAhead = house.believed(guest, thing, found[guest], written, believedAhead);
+            height = levelNoted(guest, height, believedAhead);
+            if (house.writesBook(guest)) {
                 written = height;
             }
         }
