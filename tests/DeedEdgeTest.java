@@ -227,6 +227,26 @@ public final class DeedEdgeTest {
       Check.due("none", x.redo(), -5);
       Check.due("count", x.count(3), kept);
     }
+    Check.says("40 at most are kept, of whatever numbers");
+    LeftAsFound z = Check.with(7);
+    for (int i = 0; i < 70; i++) z.mend(i % 7 * 10 + i % 4, i % 2 + 2, 1 + i % 5);
+    int kept = z.count(3);
+    Check.due("kept", kept, 40);
+    int[] told = new int[56];
+    for (int i = 0; i < 56; i++) told[i] = z.of(i / 8 * 10 + i % 4, i / 4 % 2 + 2);
+    for (int left = 39; left >= 0; left--) Check.due("undo", z.undo(), left);
+    // the first 30 stay
+    for (int i = 0; i < 7; i++) {
+      for (int thing = 0; thing < 4; thing++) {
+        for (int what = 2; what < 4; what++) {
+          int last = 0;
+          for (int k = 0; k < 30; k++) if (k % 7 == i && k % 4 == thing && k % 2 + 2 == what) last = 1 + k % 5;
+          Check.due("number " + what + " of " + i + thing, z.of(10 * i + thing, what), last);
+        }
+      }
+    }
+    for (int left = 39; left >= 0; left--) Check.due("redo", z.redo(), left);
+    for (int i = 0; i < 56; i++) Check.due("as it was", z.of(i / 8 * 10 + i % 4, i / 4 % 2 + 2), told[i]);
     Check.says("DONE AGAIN (as long as no other came behind)");
     LeftAsFound x = new LeftAsFound();
     for (int i = 1; i <= 40; i++) x.mend(0, 7, 100 + i);

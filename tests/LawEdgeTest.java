@@ -105,6 +105,8 @@ public final class LawEdgeTest {
     StringBuilder lines = new StringBuilder();
     while (lines.length() < 118) lines.append("f;");
     Check.due("60 lines", gives(lines + "01"), 20);
+    Check.due("120 bytes that all do something", gives("-1" + "+0".repeat(58) + "+9"), 8);
+    Check.due("as many that wait", gives("!1" + "|0".repeat(58) + "|7"), 1);
     Check.due("the length, if it ends too early", Check.enact(new LeftAsFound(), lines + "f;"), -220);
     StringBuilder unless = new StringBuilder();
     while (unless.length() < 116) unless.append("0?1;");

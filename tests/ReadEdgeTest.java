@@ -167,6 +167,30 @@ public final class ReadEdgeTest {
     z.night(2);
     // now 2 has been ahead: 1 believes 50, but behind 0
     ways(z, 1, 1, 2);
+    Check.says("what each found first, by each guest");
+    for (int g = 0; g < 7; g++) {
+      LeftAsFound w = Check.with(7);
+      w.set(2, 60);
+      w.night(g);
+      w.set(2, 40);
+      for (int other = 0; other < 7; other++) {
+        if (other != g) w.night(other);
+        w.mend(10 * other + 2, 3, 20);
+        w.mend(other, 4, 0);
+      }
+      Check.tell(w, 0, 60);
+      Check.due("guest " + g + " alone", w.who(0, 2, 0), 1 << g);
+      Check.due("ways", w.ways(0, 2), 1);
+    }
+    Check.says("of this row alone, whatever was read before");
+    LeftAsFound u = Check.taker(1);
+    Check.tell(u, 0, 50, 50, 50, 50, 50, 50);
+    ways(u, 1, NOBODY, NOBODY, NOBODY, NOBODY, NOBODY, NOBODY);
+    Check.tell(u, 0, -1, -1);
+    u.set(0, 40);
+    ways(u, 4, 1 | NOBODY, 1 | NOBODY);
+    Check.tell(u, 0, 40, -1, -1);
+    ways(u, 4, NOBODY, 1 | NOBODY, 1 | NOBODY);
     Check.says("from now on; by a law, too");
     Check.enact(z, "t-k;99");
     Check.tell(z, 0, 50);

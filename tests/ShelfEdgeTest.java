@@ -101,6 +101,10 @@ public final class ShelfEdgeTest {
       for (int i : new int[] {-1, 10, 11, 23, 24, 25, Check.MIN, Check.MAX}) Check.due("trace " + i, x.trace(i), -1);
       Check.due("count", x.count(5), 10);
     }
+    x.body(7);
+    x.act(1, 3, 1);
+    int[] mouse = {2, 80, 10, 81, 70, 1, 11, 11};
+    for (int i = 0; i < 8; i++) Check.due("trace " + i, x.trace(i), mouse[i]);
     x.act(0, 0, 1);
     Check.due("the latest alone", x.trace(0), 1);
     Check.due("the latest alone", x.trace(1), -1);

@@ -156,6 +156,11 @@ public final class StaysEdgeTest {
     x.set(2, 99);
     Check.tell(x, 0, 9);
     Check.due("behind an empty night", x.lowest(0, 2), 99);
+    x.mend(2, 2, 7);
+    Check.tell(x, 0, 0);
+    Check.due("behind the first", x.lowest(0, 2), 92);
+    Check.tell(x, 0, 0, 0);
+    Check.due("behind the last", x.lowest(0, 2), 85);
     Check.enact(x, "5");
     x.set(2, 10);
     Check.tell(x, 0, 0, 0);
@@ -271,7 +276,15 @@ public final class StaysEdgeTest {
     z.mend(3, 2, 0);
     z.guest(0, 50);
     Check.tell(z, 0, 0, 1);
+    for (int g = 0; g < 5; g++) z.guest(0, 50);
     Check.due("of two", z.rest(0, 0), 1);
+    for (int g = 0; g < 7; g++) {
+      LeftAsFound w = Check.with(7);
+      Check.tell(w, 0, g);
+      Check.due("what guest " + g + " found", w.rest(0, 0), 1);
+      w.night(g);
+      Check.due("it was there", w.rest(0, 0), 0);
+    }
     Check.due("round", z.rest(0, 1), 1);
   }
 

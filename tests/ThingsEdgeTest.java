@@ -128,6 +128,44 @@ public final class ThingsEdgeTest {
     for (int what = 6; what < 9; what++) Check.due("number 1", x.mend(1, what, 1), Check.BAD);
   }
 
+  private static int countOf(int what) { return what < 2 ? 4 : what < 4 ? 28 : what < 6 ? 7 : 1; }
+
+  private static void eachItsOwn() {
+    Check.says("OUGHT, WORTH of a THING, TAKES, BRINGS of gt, SEES, BELIEVES of a GUEST, RULE, PRICE, HONEST becomes v");
+    LeftAsFound x = Check.with(7);
+    for (int round = 0; round < 2; round++) {
+      for (int what = 0; what < 9; what++) {
+        for (int i = 0; i < countOf(what); i++) x.mend(countOf(what) == 28 ? i / 4 * 10 + i % 4 : i, what, (7 * i + what + round) % (TOPS[what] + 1));
+      }
+      for (int what = 0; what < 9; what++) {
+        for (int i = 0; i < countOf(what); i++) {
+          int number = countOf(what) == 28 ? i / 4 * 10 + i % 4 : i;
+          Check.due("of(" + number + ", " + what + ")", x.of(number, what), (7 * i + what + round) % (TOPS[what] + 1));
+        }
+      }
+    }
+    Check.says("A NIGHT of a GUEST: by its own numbers, of each THING");
+    for (int g = 0; g < 7; g++) {
+      LeftAsFound y = Check.with(7);
+      for (int thing = 0; thing < 4; thing++) {
+        y.mend(10 * g + thing, TAKES, thing);
+        y.mend(10 * g + thing, BRINGS, 2 * thing + 4);
+        y.set(thing, 40 + thing);
+      }
+      y.mend(g, SEES, 8);
+      y.mend(g, BELIEVES, 2);
+      y.night(g);
+      // 10, 9, 8, 7 lack: of the last two it sees nothing
+      int[] behind = {44, 46, 40, 40};
+      for (int thing = 0; thing < 4; thing++) Check.due("thing " + thing + " behind " + g, y.of(thing, LEVEL), behind[thing]);
+      for (int other = 0; other < 7; other++) {
+        for (int thing = 0; thing < 4; thing++) {
+          Check.due("found by " + other, y.of(10 * other + thing, FOUND), other == g ? 40 + thing : Check.NOT);
+        }
+      }
+    }
+  }
+
   private static void guest() {
     Check.says("A GUEST who TAKES as much of all THINGS, SEES: its number. BAD, FULL: 7");
     Check.range("guest(v, 0)", v -> new LeftAsFound().guest(v, 0), 0, 9, Check.BAD);
@@ -406,6 +444,7 @@ public final class ThingsEdgeTest {
     levels();
     numbers();
     gt();
+    eachItsOwn();
     guest();
     sees();
     brings();
