@@ -198,6 +198,17 @@ public final class ReadEdgeTest {
     Check.enact(z, "o-f");
     Check.tell(z, 0, 60);
     ways(z, 1, 1);
+    for (int level : new int[] {0, 50, 99}) {
+      LeftAsFound w = Check.with(7);
+      Check.setAll(w, level);
+      for (String law : new String[] {"0", "5-f/9", "0", "-7+(f=0)*15"}) {
+        Check.enact(w, law);
+        w.row(0, 0, 1);
+        int behind = w.level(0, 0, 1);
+        Check.tell(w, 0, behind);
+        ways(w, behind == level ? 8 : 7, behind == level ? 255 : 127);
+      }
+    }
   }
 
   private static void judge() {
