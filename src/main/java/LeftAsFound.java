@@ -998,12 +998,12 @@ public final class LeftAsFound {
             int high = 0;
             int at = 0;
             // Steps go forward only, so none is taken twice.
-            for (int i = 0; i < MOST_STEPS && at < length; i++) {
+            for (int i = 0; i < MOST_STEPS && at < length && high < MOST_STEPS; i++) {
                 int sort = steps[at] / STEP;
                 int number = steps[at] % STEP;
                 at++;
                 if (sort <= NAME) {
-                    pile[high] = sort == NUMBER ? number : values[number];
+                    pile[high] = sort == NUMBER ? number : valueOf(number);
                     high++;
                 } else if (sort >= OR && high >= 2) {
                     high--;
@@ -1018,6 +1018,10 @@ public final class LeftAsFound {
                 }
             }
             return 0;
+        }
+
+        private int valueOf(int name) {
+            return name >= 0 && name < values.length ? values[name] : 0;
         }
 
         private static int ofTwo(int sort, int a, int b) {
